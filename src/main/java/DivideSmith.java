@@ -381,7 +381,7 @@ public final class DivideSmith {
                 formCount = act.subject;
                 break;
             case ACT_STEP:
-                forms[act.subject].removeLast();
+                removeStep(formAt(act.subject));
                 break;
             case ACT_PRICE:
                 prices[act.subject] = (int) act.old;
@@ -393,8 +393,20 @@ public final class DivideSmith {
                 hooks[act.subject] = act.holding;
                 break;
             default:
-                act.holding.cells[act.place] = act.old;
+                restoreCell(act.holding, act.place, act.old);
                 break;
+        }
+    }
+
+    private static void removeStep(Form form) {
+        if (form != null) {
+            form.removeLast();
+        }
+    }
+
+    private static void restoreCell(Holding row, int place, long old) {
+        if (row != null && row.hasPlace(place)) {
+            row.cells[place] = old;
         }
     }
 

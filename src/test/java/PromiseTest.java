@@ -86,9 +86,9 @@ public final class PromiseTest {
         }
         due("nothing changed", s.steps(0), 0);
         due("count N - 1", s.step(0, 0, 0, 15), 0);
-        due("operand that was made", s.step(0, 5, 1, 1), 1);
+        due("operand that was made", s.step(0, 5, 1, 0), 1);
         due("a number's upper bits go", s.step(0, 4, 2, -2), 2);
-        dueSteps("step", s, 0, 0, 0, 15, 5, 1, 1, 4, 2, 65534);
+        dueSteps("step", s, 0, 0, 0, 15, 5, 1, 0, 4, 2, 65534);
         for (int i = 3; i < 12; i++) due("step", s.step(0, 7, i, i), i);
         due("the 13th", s.step(0, 7, 12, 0), FULL);
         due("BAD is named first", s.step(0, 7, 13, 0), BAD);
@@ -232,7 +232,7 @@ public final class PromiseTest {
             {8, 1, 3, 0x90, 0xF2}, {8, 1, 7, 0x7F, 0}, {64, 1, 63, Long.MIN_VALUE, -1}, {32, 1, 31, 1L << 31, 0xFFFFFFFFL},
             {8, 2, 255, 255, 254}, {32, 2, -1, -1, 0xFFFFFFFEL}, {64, 2, -1, -1, -2}, {64, 2, 1L << 63, 6, 3},
             {8, 3, 128, 128, 64}, {8, 3, 255, 1, 255}, {8, 3, 255, 255, 0}, {64, 3, Long.MIN_VALUE, Long.MIN_VALUE, 1L << 62},
-            {64, 3, -1, 5, -1}, {64, 3, -1, -1, 0}, {32, 3, 1L << 31, 1L << 31, 1L << 30},
+            {64, 3, -1, 5, -1}, {64, 3, -1, -1, 0}, {64, 3, 0, 5, 0}, {64, 3, 5, 0, 0}, {32, 3, 1L << 31, 1L << 31, 1L << 30},
             {8, 4, 255, 255, 1}, {16, 4, 257, 257, 513}, {64, 4, 3, -1, -3},
             {8, 7, 3, 5, 254}, {16, 7, 0, 1, 65535}, {64, 7, 0, Long.MIN_VALUE, Long.MIN_VALUE},
             {8, 9, 0x0F, 0x3C, 0x0C},
@@ -268,6 +268,7 @@ public final class PromiseTest {
         due("end(0, 100, 0)", s.end(0, 100, 0), 44);
         due("end(0, 100, 1)", s.end(0, 100, 1), 213);
         due("end(0, 356, 1)", s.end(0, 356, 1), 213);
+        due("the last of 12", withSteps(12).end(0, 5, 11), withSteps(12).run(0, 5));
         due("no such step", s.end(0, 100, 2), 0);
         due("no such step", s.end(0, 100, -1), 0);
         due("no such form", s.end(1, 100, 0), 0);
@@ -277,6 +278,7 @@ public final class PromiseTest {
     private static void fails() {
         DivideSmith s = withForms(1);
         due("the number itself is its quotient by 1", s.fails(0, 0, 0, 1), NONE);
+        due("0 has no rest", s.fails(0, 0, 4, 200), 0);
         due("by 2 it fails at 1", s.fails(0, 0, 0, 2), 1);
         due("wish 5 asks of even numbers alone", s.fails(0, 0, 5, 2), 2);
         due("the rest by 255 fails at 255 alone", s.fails(0, 0, 2, 255), 255);
@@ -439,9 +441,12 @@ public final class PromiseTest {
         due("of one cost: by KIND", u.least(0, 0, 4, 1), 0);
         dueSteps("of one cost: by KIND", u, 0, 0, 0, 2);
         DivideSmith v = telling(9, 8, 255, 264);
-        due("8 is no count", v.least(0, 0, 256 + 128, 1), NONE);
-        due("only multiples are asked of", v.least(0, 5, 255, 3), 0);
-        due("RIGHT", v.fails(0, 0, 5, 255), NONE);
+        v.price(6, 50);
+        v.price(8, 50);
+        due("the rest by 1 is 0", v.least(0, 2, 1, 1), 0);
+        dueSteps("8 is no count, else KIND 0 by 8 would be cheaper", v, 0, 6, 0, 0);
+        due("only multiples are asked of", v.least(0, 5, 255, 3), 1);
+        due("RIGHT", v.fails(1, 0, 5, 255), NONE);
     }
 
     private static void leastWrong() {
