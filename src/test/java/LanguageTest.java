@@ -134,12 +134,54 @@ public final class LanguageTest {
         }
     }
 
+    private static final int[] INTS = {
+        Integer.MIN_VALUE, -1, 0, 1, 2, 5, 6, 8, 9, 12, 13, 59, 60, 64, 100, 101, Integer.MAX_VALUE,
+    };
+    private static final long[] LONGS = {Long.MIN_VALUE, -1, 0, 1, 7, 128, 256, 1L << 32, Long.MAX_VALUE};
+
+    private static DivideSmith filled(int forms) {
+        DivideSmith s = new DivideSmith();
+        for (int f = 0; f < forms; f++) {
+            s.form(f % 2 == 0 ? 8 : 64);
+            for (int k = 0; k < f % 13; k++) s.step(f, (f + k) % 13, k, k % 8);
+        }
+        for (int h = 0; h < 8; h++) s.hook(h, h % 6, 12, 11);
+        return s;
+    }
+
+    /** Every call, with all its arguments at their ends: none may throw, whatever came before. */
+    private static void neverThrows() {
+        for (Method m : DivideSmith.class.getDeclaredMethods()) {
+            if (!Modifier.isPublic(m.getModifiers())) continue;
+            for (int forms : new int[] {0, 13, 60}) {
+                callAll(m, filled(forms), new Object[m.getParameterCount()], 0);
+            }
+        }
+    }
+
+    private static void callAll(Method m, DivideSmith s, Object[] values, int at) {
+        if (at == values.length) {
+            try {
+                m.invoke(s, values);
+            } catch (ReflectiveOperationException e) {
+                rule(false, "rule 7: " + told(m) + " of " + Arrays.toString(values) + ": " + e.getCause());
+            }
+            return;
+        }
+        boolean wide = m.getParameterTypes()[at] == long.class;
+        for (int i = 0; i < (wide ? LONGS.length : INTS.length); i++) {
+            values[at] = wide ? (Object) LONGS[i] : (Object) INTS[i];
+            callAll(m, s, values, at + 1);
+        }
+    }
+
     public static void main(String[] args) throws Exception {
         String text = Files.readString(Path.of(SOURCE));
         face();
         classesAndFields();
         words(codeOf(text));
         lengths(text.split("\n"));
+        neverThrows();
         System.out.println(wrong == 0 ? "the language is kept" : wrong + " rules are not kept");
         if (wrong != 0) System.exit(1);
     }
